@@ -101,6 +101,7 @@ public final class PromiseTest {
         }
         due("size(0) after refusals", house.size(0), 11);
         due("device with the lowest value", house.device(PUMP, Integer.MIN_VALUE), 11);
+        dueStatus("a device after refusals", house, 0);
         due("the lowest value", house.state(11, 1), Integer.MIN_VALUE);
     }
 
@@ -130,6 +131,7 @@ public final class PromiseTest {
         dueCall("PUMP turn", PUMP, 7, TURN, 3, 13, 12, 0, 101, 60);
         dueCall("PUMP rest", PUMP, 7, REST, 3, -2, -2, 0, 61);
         dueCall("PUMP sum", PUMP, 12, SUM, 1, 16 + 12 + 13, 12, 0, 64, 101, 60, 61, 63);
+        dueCall("PUMP sum of shared bits", PUMP, 7, SUM, 3, 13 + 9 + 10, 9, 0, 64, 101, 60, 61, 63);
         dueCall("FINE read", FINE, 2, READ, 1, 9, 2, 0, 130, 100);
         dueCall("FINE peek", FINE, 2, PEEK, 1, 18, 2, 0, 131, 10, 130, 100);
         dueCall("FINE glance", FINE, 2, GLANCE, 0, 36, 2, 0, 11, 131, 10, 130, 100, 130, 100);
@@ -206,6 +208,33 @@ public final class PromiseTest {
         dueCall("add that wraps", METER, 0, ADD, most, -2147483630, 0, 1, 120, 70);
     }
 
+    /** The body that is selected of each act, for each kind; 0 where the kind has not the act. */
+    private static void promise3Selected() {
+        int[][] selected = {
+            {100, 10, 11, 62, 0, 70, 0, 0, 0, 101, 61, 64},
+            {0, 0, 21, 62, 111, 70, 0, 0, 0, 60, 110, 64},
+            {0, 0, 0, 62, 0, 70, 120, 41, 0, 60, 61, 64},
+            {130, 131, 11, 62, 0, 70, 0, 0, 0, 101, 61, 64},
+            {140, 10, 141, 62, 111, 70, 0, 0, 0, 60, 142, 64},
+            {150, 10, 30, 62, 152, 70, 120, 41, 0, 151, 61, 64},
+            {0, 0, 0, 62, 0, 160, 40, 50, 161, 163, 61, 64},
+            {0, 0, 0, 62, 0, 70, 120, 50, 51, 60, 61, 64},
+            {130, 131, 181, 62, 0, 70, 0, 0, 0, 180, 61, 64},
+            {190, 10, 30, 62, 111, 70, 0, 0, 0, 60, 110, 64},
+            {140, 10, 202, 62, 111, 204, 40, 201, 51, 60, 142, 64},
+        };
+        for (int kind = 0; kind < 11; kind++) {
+            for (int act = 0; act < 12; act++) {
+                LineOfKin house = houseOf(kind);
+                house.call(0, act, 0, 1);
+                int body = selected[kind][act];
+                String what = "act " + act + " of kind " + kind;
+                dueStatus(what, house, body == 0 ? 3 : 0);
+                due("chain(0) of " + what, house.chain(0), body == 0 ? NONE : body);
+            }
+        }
+    }
+
     private static void promise3WaysDoNotChoose() {
         int[][] cases = {{READ, 2}, {READ, 4}, {PEEK, 2}, {PEEK, 4}, {GLANCE, 2}, {GLANCE, 3},
             {GLANCE, 4}, {WRITE, 1}, {WRITE, 3}, {WRITE, 4}, {PUT, 3}, {PUT, 4}, {COUNT, 1},
@@ -258,7 +287,7 @@ public final class PromiseTest {
         dueChain("refusals", house, 10, 100);
     }
 
-    /** Which acts each way has: the bits of each way of a LEDGER, and of each kind's way 0. */
+    /** Which acts each way has: a bit for each act, of each way of a LEDGER. */
     private static void promise3ActsOfWays() {
         int ofUnit = 0b111000101000;
         int reads = 0b111;
@@ -267,21 +296,11 @@ public final class PromiseTest {
         int logs = 0b111100000;
         int[] ofWay = {ofUnit | reads | writes | logs, ofUnit, reads, writes, reads | writes,
             counts, logs};
-        int[] ofKind = {ofUnit | reads, ofUnit | writes, ofUnit | counts, ofUnit | reads,
-            ofUnit | reads | writes, ofUnit | reads | writes | counts, ofUnit | logs,
-            ofUnit | logs, ofUnit | reads, ofUnit | reads | writes,
-            ofUnit | reads | writes | logs};
         for (int act = 0; act < 12; act++) {
             for (int way = 0; way < 7; way++) {
                 LineOfKin house = houseOf(LEDGER);
                 house.call(0, act, way, 1);
                 dueStatus("act " + act + " by way " + way, house, (ofWay[way] >> act & 1) == 1 ? 0 : 3);
-            }
-            for (int kind = 0; kind < 11; kind++) {
-                LineOfKin house = houseOf(kind);
-                house.call(0, act, 0, 1);
-                dueStatus("act " + act + " by kind " + kind, house,
-                        (ofKind[kind] >> act & 1) == 1 ? 0 : 3);
             }
         }
     }
@@ -653,6 +672,7 @@ public final class PromiseTest {
         promise3Muted();
         promise3Ledger();
         promise3Wraps();
+        promise3Selected();
         promise3WaysDoNotChoose();
         promise3Refusals();
         promise3ActsOfWays();
