@@ -233,8 +233,9 @@ public final class LineOfKin {
             return;
         }
         for (Link link = giver.firstLink; link != null; link = link.next) {
-            if (link.to.pulse != pulse) {
-                letTake(link.to, giver.answered);
+            Device taker = link.to;
+            if (taker != null && taker.pulse != pulse) {
+                letTake(taker, giver.answered);
             }
         }
     }
